@@ -34,6 +34,11 @@ public final class CartRows {
     private static final int READS_SPEED = 3, READS_HEARD = 4, READS_OLD = 5;
     private static final int READINGS = 6;
 
+    private static final int GAP = 0, SPEED = 1, WAIT = 2, SPARE = 3, LATE = 4;
+    private static final int SETTINGS = 5;
+    private static final int[] LEAST_SETTING = {1, 0, 0, 0, 0};
+    private static final int[] MOST_SETTING = {99, 40, 4, 9, 9};
+
     private static final int[] FACTORIALS = {1, 1, 2, 6, 24, 120, 720};
 
     private final Text text = new Text();
@@ -115,14 +120,12 @@ public final class CartRows {
     }
 
     public int set(int what, int v) {
-        switch (what) {
-            case 0: return setGap(v);
-            case 1: return setSpeed(v);
-            case 2: return setWait(v);
-            case 3: return setSpare(v);
-            case 4: return setLate(v);
-            default: return OUTSIDE;
+        if (isOutside(what, 0, SETTINGS - 1) || isOutside(v, LEAST_SETTING[what], MOST_SETTING[what])) {
+            return OUTSIDE;
         }
+        int was = road.settings[what];
+        road.settings[what] = v;
+        return was;
     }
 
     public int push(int tick, int v) {
@@ -266,13 +269,15 @@ public final class CartRows {
     }
 
     public int sparing() {
-        if (!run.touches(road, road.gap, road.wait, road.lost)) {
+        int gap = road.settings[GAP];
+        int wait = road.settings[WAIT];
+        if (!run.touches(road, gap, wait, road.lost)) {
             return 0;
         }
         int spares = 0;
         for (int tick = 0; tick < TICKS; tick++) {
             int word = 1 << tick;
-            if ((road.lost & word) != 0 && !run.touches(road, road.gap, road.wait, road.lost & ~word)) {
+            if ((road.lost & word) != 0 && !run.touches(road, gap, wait, road.lost & ~word)) {
                 spares |= word;
             }
         }
@@ -327,7 +332,7 @@ public final class CartRows {
         if (what >= journeys.number) {
             return NONE;
         }
-        int leastCost = journeys.findBest(road.makes);
+        int leastCost = journeys.findBest(road);
         return what == -1 ? leastCost : journeys.bestHour[what];
     }
 
@@ -339,7 +344,7 @@ public final class CartRows {
             }
             journeys.hour[i] = hour;
         }
-        return journeys.cost(road.makes);
+        return journeys.cost(road);
     }
 
     public int spared(int person, int ahead, int v) {
@@ -488,52 +493,7 @@ public final class CartRows {
     }
 
     private void driveAsTold() {
-        run.drive(road, road.gap, road.wait, road.lost);
-    }
-
-    private int setGap(int v) {
-        if (isOutside(v, 1, MOST_GAP)) {
-            return OUTSIDE;
-        }
-        int was = road.gap;
-        road.gap = v;
-        return was;
-    }
-
-    private int setSpeed(int v) {
-        if (isOutside(v, 0, MOST_SPEED)) {
-            return OUTSIDE;
-        }
-        int was = road.speed;
-        road.speed = v;
-        return was;
-    }
-
-    private int setWait(int v) {
-        if (isOutside(v, 0, MOST_WAIT)) {
-            return OUTSIDE;
-        }
-        int was = road.wait;
-        road.wait = v;
-        return was;
-    }
-
-    private int setSpare(int v) {
-        if (isOutside(v, 0, 9)) {
-            return OUTSIDE;
-        }
-        int was = journeys.spare;
-        journeys.spare = v;
-        return was;
-    }
-
-    private int setLate(int v) {
-        if (isOutside(v, 0, 9)) {
-            return OUTSIDE;
-        }
-        int was = journeys.late;
-        journeys.late = v;
-        return was;
+        run.drive(road, road.settings[GAP], road.settings[WAIT], road.lost);
     }
 
     /** A MAKE. One without a TABLE holds a table of no lines, by which every wish is 0 as well. */
@@ -762,14 +722,13 @@ public final class CartRows {
         }
     }
 
-    /** All that is told of THE ROW and its road. */
+    /** All that is told of MAKES, THE ROW and its road, with what is SET. */
     private static final class Road {
         final Make[] makes = {new Make(), new Make(), new Make(), new Make()};
         int lorries = 1;
         final int[] makeOf = new int[MOST_LORRIES];
-        int gap = 10;
-        int speed = 20;
-        int wait = 1;
+        /** GAP, SPEED, WAIT, SPARE, LATE. */
+        final int[] settings = {10, 20, 1, 2, 1};
         int lost = 0;
 
         int pushes = 0;
@@ -899,7 +858,7 @@ public final class CartRows {
             touchTick = NONE;
             touchLorry = NONE;
             for (int lorry = 0; lorry < road.lorries; lorry++) {
-                speed[lorry][0] = road.speed;
+                speed[lorry][0] = road.settings[SPEED];
                 gap[lorry][0] = gapAtFirst;
                 place[lorry][0] = FIRST_PLACE - lorry * gapAtFirst;
             }
@@ -996,30 +955,28 @@ public final class CartRows {
         final int[] first = new int[MOST_JOURNEYS];
         final int[] last = new int[MOST_JOURNEYS];
         final int[] make = new int[MOST_JOURNEYS];
-        int spare = 2;
-        int late = 1;
 
         /** The HOURS of leaving that are judged, and the BEST found. */
         final int[] hour = new int[MOST_JOURNEYS];
         final int[] bestHour = new int[MOST_JOURNEYS];
 
-        int cost(Make[] makes) {
+        int cost(Road road) {
             int all = 0;
             for (int i = 0; i < number; i++) {
-                all += late * (hour[i] - first[i]);
+                all += road.settings[LATE] * (hour[i] - first[i]);
                 for (int place = from[i]; place < to[i]; place++) {
-                    all += burnt(makes, i, place);
+                    all += burnt(road, i, place);
                 }
             }
             return all;
         }
 
-        private int burnt(Make[] makes, int journey, int place) {
-            int weight = makes[make[journey]].weight;
+        private int burnt(Road road, int journey, int place) {
+            int weight = road.makes[make[journey]].weight;
             for (int other = 0; other < number; other++) {
                 if (other != journey && leavesWith(journey, other, place)
-                        && leads(makes, other, journey)) {
-                    return Math.max(1, weight - spare);
+                        && leads(road, other, journey)) {
+                    return Math.max(1, weight - road.settings[SPARE]);
                 }
             }
             return weight;
@@ -1030,22 +987,22 @@ public final class CartRows {
                     && hour[other] - from[other] == hour[journey] - from[journey];
         }
 
-        private boolean leads(Make[] makes, int one, int other) {
-            int weight = makes[make[one]].weight;
-            int otherWeight = makes[make[other]].weight;
+        private boolean leads(Road road, int one, int other) {
+            int weight = road.makes[make[one]].weight;
+            int otherWeight = road.makes[make[other]].weight;
             return weight > otherWeight || weight == otherWeight && one < other;
         }
 
-        int findBest(Make[] makes) {
+        int findBest(Road road) {
             for (int i = 0; i < number; i++) {
                 hour[i] = first[i];
             }
-            int leastCost = cost(makes);
+            int leastCost = cost(road);
             System.arraycopy(hour, 0, bestHour, 0, MOST_JOURNEYS);
             int choices = choices();
             for (int choice = 1; choice < choices; choice++) {
                 turn();
-                int cost = cost(makes);
+                int cost = cost(road);
                 if (cost < leastCost) {
                     leastCost = cost;
                     System.arraycopy(hour, 0, bestHour, 0, MOST_JOURNEYS);

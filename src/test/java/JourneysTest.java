@@ -137,6 +137,11 @@ public final class JourneysTest {
         Due.due("as early as the first can", x.best(0), 3);
         Due.due("the other too", x.best(1), 3);
         x.clear();
+        x.journey(0, 1, 0, 2, 1);
+        x.journey(0, 1, 2, 2, 1);
+        Due.due("all at their last hours is tried too", x.best(-1), 17);
+        Due.due("the last hour", x.best(0), 2);
+        x.clear();
         x.journey(0, 1, 0, 5, 1);
         x.journey(0, 1, 4, 5, 1);
         x.journey(0, 1, 0, 2, 1);

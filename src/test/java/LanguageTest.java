@@ -124,6 +124,10 @@ public final class LanguageTest {
             holds(library.group() + " is in the language", allowed.contains(library.group(2)));
         }
         methodsAreShort(source);
+        // all rows are made with the object and used again: a call makes nothing
+        source.lines().filter(line -> line.matches(".*\\bnew\\b.*")).forEach(line ->
+            holds("made as a field: " + line.trim(), line.matches(" +(private )?(final )?[A-Z\\w\\[\\]]+ \\w+ = .*;")
+                && !line.startsWith("            ")));
     }
 
     private static void methodsAreShort(String source) {

@@ -361,6 +361,10 @@ public final class RunsTest {
         x.calm();
         x.push(3, -2);
         Due.due("58 are lost", x.need(4, 2), 59);
+        x.calm();
+        x.push(0, -1);
+        x.push(5, -1);
+        Due.due("59 are lost: 60 is still tried", x.need(4, 2), 60);
         Due.due("one lorry", new CartRows().need(4, 2), 1);
         // safe, not safe, safe: a hill that stops the lorry ahead if it begins on it
         x = new CartRows();

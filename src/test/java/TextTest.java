@@ -82,6 +82,12 @@ public final class TextTest {
         fault("keepkeep", 0);
         fault("kee", 0);
         fault("keeps", 0);
+        fault("keepa", 0);
+        fault("keepz", 0);
+        fault("keep{", 4);
+        fault("keep`", 4);
+        fault("slow 9/", 6);
+        fault("slow 9:", 6);
         fault("Keep", 0);
         fault("keeP", 0);
         fault("keepX", 4);
