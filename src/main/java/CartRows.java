@@ -367,11 +367,14 @@ public final class CartRows {
     }
 
     public int share(int person, int n, int part) {
-        // with no such n there are no first n to be among: then it is n that is wrong
+        if (isNoPerson(person)) {
+            return UNKNOWN;
+        }
+        // with no such n there are no first n to be among: of a person that there is, it is n that is wrong
         if (isOutside(n, 1, PERSONS)) {
             return OUTSIDE;
         }
-        if (isOutside(person, 0, n - 1)) {
+        if (person >= n) {
             return UNKNOWN;
         }
         switch (part) {

@@ -573,7 +573,7 @@ public final class Model {
     }
 
     public int share(int person, int n, int part) {
-        if (in(n, 1, 6) && !in(person, 0, n - 1)) {
+        if (!in(person, 0, 5) || in(n, 1, 6) && person >= n) {
             return -2;
         }
         if (!in(n, 1, 6) || !in(part, 0, 2)) {

@@ -51,6 +51,19 @@ public final class SharesTest {
         Due.due("person -1", x.share(-1, 3, 0), UNKNOWN);
         Due.due("person 6", x.share(6, 6, 2), UNKNOWN);
         Due.due("unknown ahead of outside", x.share(3, 3, 3), UNKNOWN);
+        // no such person, whatever n and part are
+        for (int nobody : new int[] {-1, 6, Integer.MIN_VALUE, Integer.MAX_VALUE}) {
+            for (int n : new int[] {Integer.MIN_VALUE, -1, 0, 1, 3, 6, 7, Integer.MAX_VALUE}) {
+                Due.due("nobody " + nobody + " of " + n, x.share(nobody, n, 0), UNKNOWN);
+                Due.due("nobody " + nobody + " of " + n + ", part 3", x.share(nobody, n, 3), UNKNOWN);
+            }
+        }
+        // a person that there is: of no n it is n that is wrong
+        for (int person = 0; person < 6; person++) {
+            for (int n : new int[] {Integer.MIN_VALUE, -1, 0, 7, Integer.MAX_VALUE}) {
+                Due.due("person " + person + " of " + n, x.share(person, n, 0), OUTSIDE);
+            }
+        }
         Due.due("n 0", x.share(0, 0, 0), OUTSIDE);
         Due.due("n 7", x.share(0, 7, 0), OUTSIDE);
         Due.due("n -1", x.share(0, -1, 0), OUTSIDE);
