@@ -14,8 +14,16 @@ final class Due {
         asked++;
         if (got != want) {
             wrong++;
-            System.out.println(call + " answered " + got + ", due is " + want);
+            System.out.println(call + " answered " + got + ", due is " + want + Doc.sentenceInBrackets());
         }
+    }
+
+    static void holds(String what, boolean holds) {
+        due(what, holds ? 1 : 0, 1);
+    }
+
+    static int asked() {
+        return asked;
     }
 
     static void end() {
@@ -51,5 +59,13 @@ final class Due {
         put(x, text);
         int lines = text.split(";", -1).length;
         due("table of " + text, x.table(make), lines);
+    }
+
+    /** n lorries: the first of make 0, the others of make 1, which has this table. */
+    static CartRows followers(int n, String table) {
+        CartRows x = new CartRows();
+        x.row(0b010101010100, n);
+        tell(x, 1, table);
+        return x;
     }
 }

@@ -41,10 +41,6 @@ public final class LanguageTest {
         Due.due("FULL", CartRows.FULL, -5);
     }
 
-    private static void holds(String what, boolean holds) {
-        Due.due(what, holds ? 1 : 0, 1);
-    }
-
     private static void face() {
         Set<String> found = new TreeSet<>();
         for (Method method : CartRows.class.getDeclaredMethods()) {
@@ -54,11 +50,11 @@ public final class LanguageTest {
                     line.append(type.descriptorString());
                 }
                 found.add(line.toString());
-                holds(line + " answers int", method.getReturnType() == int.class);
+                Due.holds(line + " answers int", method.getReturnType() == int.class);
             }
         }
-        holds("the public calls are those of the document", found.equals(new TreeSet<>(Arrays.asList(FACE))));
-        holds("the class is public and final", Modifier.isPublic(CartRows.class.getModifiers())
+        Due.holds("the public calls are those of the document", found.equals(new TreeSet<>(Arrays.asList(FACE))));
+        Due.holds("the class is public and final", Modifier.isPublic(CartRows.class.getModifiers())
             && Modifier.isFinal(CartRows.class.getModifiers()));
     }
 
@@ -73,33 +69,33 @@ public final class LanguageTest {
             int modifiers = member.getModifiers();
             boolean isFace = Modifier.isPublic(modifiers)
                 && (member instanceof Method || CONSTANTS.contains(member.getName()));
-            holds(member.getName() + " is private or of the face", isFace || Modifier.isPrivate(modifiers));
+            Due.holds(member.getName() + " is private or of the face", isFace || Modifier.isPrivate(modifiers));
             if (member instanceof Method && Modifier.isPrivate(modifiers)) {
-                holds(member.getName() + " is no public call's name", !publicNames.contains(member.getName()));
+                Due.holds(member.getName() + " is no public call's name", !publicNames.contains(member.getName()));
             }
         }
         Constructor<?>[] constructors = CartRows.class.getDeclaredConstructors();
-        holds("one constructor, without parameters, public", constructors.length == 1
+        Due.holds("one constructor, without parameters, public", constructors.length == 1
             && constructors[0].getParameterCount() == 0 && Modifier.isPublic(constructors[0].getModifiers()));
     }
 
     private static void classesInside() {
         Class<?>[] inside = CartRows.class.getDeclaredClasses();
-        holds("at most twelve classes", inside.length < 12);
+        Due.holds("at most twelve classes", inside.length < 12);
         List<Class<?>> all = new ArrayList<>(Arrays.asList(inside));
         all.add(CartRows.class);
         for (Class<?> one : all) {
             boolean isTop = one == CartRows.class;
-            holds(one.getName() + " is static", isTop || Modifier.isStatic(one.getModifiers()));
+            Due.holds(one.getName() + " is static", isTop || Modifier.isStatic(one.getModifiers()));
             int fields = 0;
             for (Field field : one.getDeclaredFields()) {
                 boolean isStatic = Modifier.isStatic(field.getModifiers());
                 fields += isStatic ? 0 : 1;
-                holds(field + " is final, if static", !isStatic || Modifier.isFinal(field.getModifiers()));
+                Due.holds(field + " is final, if static", !isStatic || Modifier.isFinal(field.getModifiers()));
             }
-            holds(one.getName() + " has at most twenty fields", fields <= 20);
+            Due.holds(one.getName() + " has at most twenty fields", fields <= 20);
             for (Method method : one.getDeclaredMethods()) {
-                holds(method + " takes at most seven", method.getParameterCount() <= 7);
+                Due.holds(method + " takes at most seven", method.getParameterCount() <= 7);
             }
         }
     }
@@ -115,18 +111,18 @@ public final class LanguageTest {
         for (String word : words) {
             String pattern = Character.isLetter(word.charAt(0)) && !word.contains(".") ? "\\b" + word + "\\b" : word;
             Matcher m = Pattern.compile(pattern).matcher(source);
-            holds("no " + word, !m.find());
+            Due.holds("no " + word, !m.find());
         }
-        holds("signs of 1 to 127 alone", source.chars().allMatch(c -> c > 0 && c < 128));
+        Due.holds("signs of 1 to 127 alone", source.chars().allMatch(c -> c > 0 && c < 128));
         Matcher library = Pattern.compile("\\b(Math|Integer|Long|Arrays)\\.(\\w+)").matcher(source);
         Set<String> allowed = Set.of("max", "min", "abs", "floorDiv", "floorMod", "bitCount", "compare", "fill", "copyOf");
         while (library.find()) {
-            holds(library.group() + " is in the language", allowed.contains(library.group(2)));
+            Due.holds(library.group() + " is in the language", allowed.contains(library.group(2)));
         }
         methodsAreShort(source);
         // all rows are made with the object and used again: a call makes nothing
         source.lines().filter(line -> line.matches(".*\\bnew\\b.*")).forEach(line ->
-            holds("made as a field: " + line.trim(), line.matches(" +(private )?(final )?[A-Z\\w\\[\\]]+ \\w+ = .*;")
+            Due.holds("made as a field: " + line.trim(), line.matches(" +(private )?(final )?[A-Z\\w\\[\\]]+ \\w+ = .*;")
                 && !line.startsWith("            ")));
     }
 
@@ -136,7 +132,7 @@ public final class LanguageTest {
         while (m.find()) {
             int end = source.indexOf("\n" + m.group(1) + "}", m.start());
             long lines = source.substring(m.start(), end).lines().count();
-            holds(m.group().trim() + " is short", lines <= 60);
+            Due.holds(m.group().trim() + " is short", lines <= 60);
         }
     }
 }

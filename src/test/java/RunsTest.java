@@ -25,14 +25,6 @@ public final class RunsTest {
         Due.end();
     }
 
-    /** n lorries: the first of make 0, the others of make 1, which has this table. */
-    private static CartRows followers(int n, String table) {
-        CartRows x = new CartRows();
-        x.row(0b010101010100, n);
-        Due.tell(x, 1, table);
-        return x;
-    }
-
     private static void atRefusals() {
         CartRows x = new CartRows();
         x.row(0, 2);
@@ -44,7 +36,7 @@ public final class RunsTest {
     }
 
     private static void atPlain() {
-        CartRows x = followers(3, "slow 1");
+        CartRows x = Due.followers(3, "slow 1");
         x.push(1, 1);
         int[][] rows = {
             {0, 0, 20, NONE, 320, 0, 0, 99}, {1, 0, 19, 11, 309, -1, 0, 99}, {2, 0, 19, 10, 299, -1, 0, 99},
@@ -76,7 +68,7 @@ public final class RunsTest {
 
     private static void feetAnswerLate() {
         for (int foot = 0; foot < 4; foot++) {
-            CartRows x = followers(2, "slow 1 when old above 98");
+            CartRows x = Due.followers(2, "slow 1 when old above 98");
             x.make(0, 1, 4, 2, foot);
             x.make(1, 1, 4, 2, foot);
             x.push(0, -3);
@@ -139,7 +131,7 @@ public final class RunsTest {
     }
 
     private static void allByWhatWas() {
-        CartRows x = followers(4, "slow 3 when closing above 0");
+        CartRows x = Due.followers(4, "slow 3 when closing above 0");
         x.push(0, -3);
         for (int lorry = 0; lorry < 4; lorry++) {
             Due.due("ahead of its tick", lorry == 0 ? 20 : x.at(lorry, lorry - 1, 0), 20);
@@ -207,7 +199,7 @@ public final class RunsTest {
     }
 
     private static void strangerGapIsCutTowardsZero() {
-        CartRows x = followers(2, "fast 1 when gap above 0 and old below 98");
+        CartRows x = Due.followers(2, "fast 1 when gap above 0 and old below 98");
         x.set(0, 1);
         x.push(0, -4);
         x.stranger(1, 1, 2, 22);
@@ -217,7 +209,7 @@ public final class RunsTest {
     }
 
     private static void strangerIsWhatIsAhead() {
-        CartRows x = followers(3, "slow 1 when closing above 0; fast 1 when opening above 0");
+        CartRows x = Due.followers(3, "slow 1 when closing above 0; fast 1 when opening above 0");
         x.stranger(1, 2, 3, 15);
         Due.due("not yet", x.at(1, 1, 3), 0);
         Due.due("closing on it", x.at(1, 2, 3), -1);
@@ -225,7 +217,7 @@ public final class RunsTest {
         Due.due("gone: behind the lorry", x.at(1, 4, 3), 1);
         Due.due("the next sees its lorry", x.at(2, 2, 3), 0);
         Due.due("a tick later", x.at(2, 3, 3), -1);
-        x = followers(2, "slow 1 when gap below 3");
+        x = Due.followers(2, "slow 1 when gap below 3");
         x.stranger(1, 2, 3, 18);
         Due.due("5", x.at(1, 2, 3), 0);
         Due.due("3", x.at(1, 3, 3), 0);
@@ -275,7 +267,7 @@ public final class RunsTest {
     }
 
     private static void dipAndGrows() {
-        CartRows x = followers(4, "slow 2 when closing above 0");
+        CartRows x = Due.followers(4, "slow 2 when closing above 0");
         x.make(1, 1, 4, 2, 1);
         x.push(0, -2);
         Due.due("dip -1", x.dip(-1), UNKNOWN);
@@ -305,7 +297,7 @@ public final class RunsTest {
 
     /** The first brakes once by 4; the second brakes by 4 when it hears it: wait times 4 are lost of the gap. */
     private static CartRows hearing() {
-        CartRows x = followers(2, "slow 4 when heard above 0");
+        CartRows x = Due.followers(2, "slow 4 when heard above 0");
         x.push(0, -4);
         return x;
     }
@@ -383,13 +375,13 @@ public final class RunsTest {
         x.push(1, -4);
         Due.due("losing 0 is the least", x.worst(9, 0, 2), 1);
         Due.due("all is heard", x.worst(9, 0, 0), NONE);
-        x = followers(2, "slow 4 when heard above 0");
+        x = Due.followers(2, "slow 4 when heard above 0");
         x.push(3, -4);
         Due.due("the word of tick 3", x.worst(5, 1, 1), 8);
         Due.due("with two losses too", x.worst(5, 1, 2), 8);
         Due.due("a wait comes behind all losses", x.worst(5, 2, 0), 512);
         Due.due("losses come ahead of a wait", x.worst(5, 2, 1), 8);
-        x = followers(2, "slow 8 when heard above 0");
+        x = Due.followers(2, "slow 8 when heard above 0");
         x.make(1, 1, 8, 2, 0);
         x.push(1, -4);
         x.push(2, -4);
@@ -401,7 +393,7 @@ public final class RunsTest {
     }
 
     private static void sparing() {
-        CartRows x = followers(2, "slow 8 when heard above 0");
+        CartRows x = Due.followers(2, "slow 8 when heard above 0");
         x.make(1, 1, 8, 2, 0);
         x.push(0, -4);
         x.push(1, -4);
