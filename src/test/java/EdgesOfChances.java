@@ -142,6 +142,13 @@ final class EdgesOfChances {
         // the word of tick 7 alone does harm: 128 comes behind all pairs of lesser words, which do none
         Due.due("128", hearing(7).worst(99, 4, 2), 128);
         Due.due("128 with one loss", hearing(7).worst(99, 4, 1), 128);
+        // two words of 1, of which one is enough, and one of 4, which is needed: 3 is less than 32, though it is of more words
+        x = Due.followers(2, "slow 4 when heard above 3;slow 2 when heard above 0 and speed above 18");
+        x.push(0, -1);
+        x.push(1, -1);
+        x.push(5, -4);
+        Due.due("two words of the least ticks", x.worst(30, 0, 2), 3);
+        Due.due("one word alone", x.worst(30, 0, 1), 32);
     }
 
     private static void sparingOf() {

@@ -146,21 +146,14 @@ final class EdgesOfRefusals {
     }
 
     private static void tryRefused(List<Try> tries, boolean full) {
-        int[] want = answers(told(full));
+        int[] want = Told.answers(Told.of(full));
         for (int from = 0; from < tries.size(); from += AT_ONCE) {
-            CartRows x = told(full);
+            CartRows x = Told.of(full);
             List<Try> some = tries.subList(from, Math.min(tries.size(), from + AT_ONCE));
             for (Try one : some) {
                 Due.due(one.call + Arrays.toString(one.numbers) + (full ? ", full" : ""), one.of.of(x, one.numbers), one.due);
             }
-            same("behind refusals of " + some.get(0).call, answers(x), want);
-        }
-    }
-
-    private static void same(String what, int[] got, int[] want) {
-        Due.due(what + ": answers", got.length, want.length);
-        for (int i = 0; i < Math.min(got.length, want.length); i++) {
-            Due.due(what + ": answer " + i, got[i], want[i]);
+            Told.same("behind refusals of " + some.get(0).call, Told.answers(x), want);
         }
     }
 
@@ -221,18 +214,21 @@ final class EdgesOfRefusals {
         Call journey = (x, n) -> x.journey(n[0], n[1], n[2], n[3], n[4]);
         Call event = (x, n) -> x.event(n[0], n[1]);
         Call after = (x, n) -> x.after(n[0], n[1], n[2]);
-        tryRefused(List.of(row("push", push, FULL, 0, -9), row("push", push, FULL, 31, 5), row("push", push, FULL, 2, 0),
-            row("hill", hill, FULL, 0, 0, 0, 0), row("hill", hill, FULL, 0, 2000, 0, 0),
+        List<Try> tries = List.of(row("push", push, FULL, 0, -9), row("push", push, FULL, 31, 5),
+            row("push", push, FULL, 2, 0), row("hill", hill, FULL, 0, 0, 0, 0), row("hill", hill, FULL, 0, 2000, 0, 0),
             row("hill", hill, FULL, 2000, 2000, 40, 40), row("journey", journey, FULL, 0, 9, 0, 5, 0),
-            row("journey", journey, FULL, 8, 9, 18, 23, 3), row("event", event, FULL, 0, 0),
-            row("event", event, FULL, 5, 999), row("after", after, FULL, 0, 1, 0), row("after", after, FULL, 11, 0, 99)),
-            true);
+            row("journey", journey, FULL, 8, 9, 18, 23, 2), row("event", event, FULL, 0, 0),
+            row("event", event, FULL, 5, 999), row("after", after, FULL, 0, 1, 0), row("after", after, FULL, 11, 0, 99));
+        // each on an object of its own, lest one undoes what another one does
+        for (Try one : tries) {
+            tryRefused(List.of(one), true);
+        }
     }
 
     /** What is only asked changes nothing either. */
     private static void questions() {
         for (boolean full : new boolean[] {false, true}) {
-            CartRows x = told(full);
+            CartRows x = Told.of(full);
             x.fault();
             x.at(3, 31, 1);
             x.touch(0);
@@ -255,138 +251,7 @@ final class EdgesOfRefusals {
             x.agree();
             x.span(0, 0);
             x.count(6);
-            same("behind questions", answers(x), answers(told(full)));
+            Told.same("behind questions", Told.answers(x), Told.answers(Told.of(full)));
         }
-    }
-
-    // ---- what is told, and all that can be asked of it
-
-    /** Something of everything; full: as much of it as there is room for, and THE TEXT has a fault. */
-    private static CartRows told(boolean full) {
-        CartRows x = new CartRows();
-        x.make(0, 12, 7, 3, 0);
-        x.make(1, 20, 6, 2, 1);
-        x.make(2, 31, 9, 4, 0);
-        x.make(3, 9, 5, 5, 2);
-        Due.tell(x, 1, "slow 9 when heard above 3;slow 3 when closing above 0;fast 1");
-        Due.tell(x, 2, "slow 4 when gap below 9;fast 9 when opening above 1");
-        Due.tell(x, 3, "fast 5 when gap above 20 and old below 9;slow 5");
-        x.row(0b10_01_11_10_01_00, 6);
-        x.set(0, 17);
-        x.set(1, 25);
-        x.set(2, 2);
-        x.set(3, 4);
-        x.set(4, 3);
-        x.lose(0x40001012);
-        x.stranger(3, 4, 9, 22);
-        for (int i = 0; i < (full ? 8 : 3); i++) {
-            x.push(3 * i, i % 2 == 0 ? -6 : 4);
-        }
-        for (int i = 0; i < (full ? 2 : 1); i++) {
-            x.hill(400 + 100 * i, 460 + 100 * i, 19 - 9 * i, 23 - 4 * i);
-        }
-        for (int i = 0; i < (full ? 5 : 2); i++) {
-            x.journey(i, i + 5, 8 + i / 2, 10 + i, i % 4);
-        }
-        for (int person = 1; person < 6; person++) {
-            x.spared(person, person - 1, 13 * person);
-            x.spared(person, 0, 7 + person);
-            x.clock(person, 9 + person);
-        }
-        for (int i = 0; i < 12; i++) {
-            x.event(i % 6, 300 + 3 * i);
-        }
-        for (int i = 0; i < (full ? 12 : 4); i++) {
-            x.after(i % 11, i % 11 + 1, i == 11 ? 0 : 2);
-        }
-        Due.put(x, full ? "keep when gap below" + " ".repeat(138) : "slow 2;fast 3 when old above 7");
-        return x;
-    }
-
-    private static int[] answers(CartRows x) {
-        List<Integer> all = new ArrayList<>();
-        for (int what = 0; what < 7; what++) {
-            all.add(x.count(what));
-        }
-        askRuns(x, all);
-        askJourneysAndShares(x, all);
-        for (int event = 0; event < 12; event++) {
-            all.add(x.span(event, 0));
-            all.add(x.span(event, 1));
-        }
-        all.add(x.agree());
-        askMakes(x, all);
-        tellAnew(x, all);
-        return all.stream().mapToInt(i -> i).toArray();
-    }
-
-    private static void askRuns(CartRows x, List<Integer> all) {
-        for (int lorry = 0; lorry < 6; lorry++) {
-            for (int tick : new int[] {2, 7, 16, 31}) {
-                all.add(x.at(lorry, tick, 1 + lorry % 2));
-                all.add(x.at(lorry, tick, 3));
-            }
-            all.add(x.dip(lorry));
-            all.add(x.least(lorry));
-        }
-        for (int tick : new int[] {3, 7, 15, 31}) {
-            all.add(x.at(1, tick, 4));
-            all.add(x.at(1, tick, 5));
-        }
-        all.add(x.touch(0));
-        all.add(x.touch(1));
-        all.add(x.grows());
-        all.add(x.need(1, 1));
-        all.add(x.worst(30, 1, 1));
-        all.add(x.sparing());
-        all.add(x.bears(0, 2000));
-        all.add(x.bears(500, 530));
-    }
-
-    private static void askJourneysAndShares(CartRows x, List<Integer> all) {
-        for (int what = -1; what < 5; what++) {
-            all.add(x.best(what));
-        }
-        all.add(x.judge(0b001_000_001_000_001));
-        for (int person = 0; person < 6; person++) {
-            all.add(x.share(person, 6, 0));
-            all.add(x.share(person, 6, 2));
-        }
-    }
-
-    /** Each make as the first one of the row, and behind it. */
-    private static void askMakes(CartRows x, List<Integer> all) {
-        for (int make = 0; make < 4; make++) {
-            all.add(x.row(make << 2 | make, 2));
-            all.add(x.bears(0, 2000));
-            for (int tick : new int[] {0, 3}) {
-                all.add(x.at(0, tick, 3));
-                all.add(x.at(0, tick, 0));
-                all.add(x.at(1, tick, 3));
-                all.add(x.at(1, tick, 0));
-            }
-        }
-    }
-
-    /** What was told shows in what telling anew answers. */
-    private static void tellAnew(CartRows x, List<Integer> all) {
-        for (int what = 0; what < 5; what++) {
-            all.add(x.set(what, 1));
-        }
-        for (int person = 0; person < 6; person++) {
-            all.add(x.clock(person, 0));
-            for (int ahead = 0; ahead < person; ahead++) {
-                all.add(x.spared(person, ahead, 0));
-                all.add(x.spared(ahead, person, 0));
-            }
-        }
-        all.add(x.fault());
-        all.add(x.write(0x2033, 2));
-        all.add(x.fault());
-        all.add(x.table(0));
-        all.add(x.at(1, 0, 3));
-        all.add(x.erase());
-        all.add(x.calm());
-        all.add(x.clear());
     }
 }

@@ -303,6 +303,23 @@ final class EdgesOfRows {
         x.stranger(1, 1, 2, 22);
         Due.due("-1", x.at(1, 0, 1), -1);
         Due.due("0, and 2", x.at(1, 2, 3), 1);
+        asBothGo();
+    }
+
+    /** The gap to it goes by its speed and that of its own lorry: the lorries ahead and behind are of other speeds. */
+    private static void asBothGo() {
+        CartRows x = Due.followers(3, "fast 1 when gap below 6 and gap above 4;slow 3 when gap below 5 and gap above 3");
+        x.row(0b10_01_00, 3);
+        Due.tell(x, 2, "fast 2");
+        x.push(0, -4);
+        x.stranger(1, 0, 3, 20);
+        // 5, then 1 less, then 2 more, and 2 more
+        int[] wishes = {1, -3, 0, 0};
+        int[] speeds = {21, 18, 18, 18};
+        for (int tick = 0; tick < 4; tick++) {
+            Due.due("wish by the gap to it in tick " + tick, x.at(1, tick, 3), wishes[tick]);
+            Due.due("its lorry's speed", x.at(1, tick, 0), speeds[tick]);
+        }
     }
 
     private static int wishAhead(int gap, String test) {
@@ -478,6 +495,25 @@ final class EdgesOfRows {
         }
         Due.due("two", x.count(2), 2);
         Due.due("no third holds", x.at(0, 31, 2), 940);
+        twoHillsStay();
+    }
+
+    /** Both go on as told when there is no room for another one: speed 15 from place 340, 11 from place 500. */
+    private static void twoHillsStay() {
+        for (int[] third : new int[][] {{0, 2000, 0, 5}, {340, 400, 0, 40}, {500, 600, 40, 11}, {2000, 2000, 0, 11}}) {
+            CartRows x = new CartRows();
+            x.make(0, 7, 4, 2, 0);
+            x.hill(340, 400, 6, 15);
+            x.hill(500, 600, 6, 11);
+            Due.due("a third", x.hill(third[0], third[1], third[2], third[3]), FULL);
+            Due.due("ahead of the first", x.at(0, 1, 0), 20);
+            Due.due("on the first", x.at(0, 2, 0), 15);
+            Due.due("at its last place", x.bears(400, 400), 7);
+            Due.due("ahead of the second", x.at(0, 12, 2), 505);
+            Due.due("on the second", x.at(0, 13, 0), 11);
+            Due.due("as far as both let it", x.at(0, 31, 2), 505 + 19 * 11);
+            Due.due("two", x.count(2), 2);
+        }
     }
 
     private static void stranger() {

@@ -217,6 +217,10 @@ final class EdgesOfRuns {
         x.hill(300, 300, 0, 3);
         Due.due("of two hills the lesser slope", x.at(0, 0, 0), 3);
         Due.due("0 at least from there", x.at(0, 1, 0), 0);
+        x = new CartRows();
+        x.hill(300, 300, 0, 3);
+        x.hill(300, 300, 0, 36);
+        Due.due("whichever was told first", x.at(0, 0, 0), 3);
     }
 
     private static void going() {

@@ -194,6 +194,9 @@ final class EdgesOfText {
         // the bytes beside a .. z and 0 .. 9 belong to no row of letters or digits
         faultIs("keep`", 4);
         faultIs("keep{", 4);
+        faultIs("keepA", 4);
+        faultIs("keepZ", 4);
+        faultIs("keep wHEN gap below 1", 5);
         faultIs("keepa", 0);
         faultIs("keepz", 0);
         faultIs("slow 9/", 6);

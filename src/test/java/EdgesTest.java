@@ -12,6 +12,7 @@ public final class EdgesTest {
         EdgesOfShares.check();
         EdgesOfClocks.check();
         EdgesOfRefusals.check();
+        EdgesOfOrders.check();
         Doc.end();
         Due.end();
     }
